@@ -1,0 +1,206 @@
+/** Promises 6 to 13: the text, its faults, acts and what they tell. */
+public final class ActsTest {
+    private static final Check check = new Check("ActsTest");
+
+    public static void main(String[] args) {
+        writing();
+        erasing();
+        faults();
+        forcing();
+        word();
+        dayActs();
+        postages();
+        clauses();
+        check.end();
+    }
+
+    private static void writing() {
+        check.promise(6);
+        PennyPost x = new PennyPost();
+        check.due("none", -3, x.write(0, 0));
+        check.due("nine", -3, x.write(0, 9));
+        check.due("one", 1, x.write('l', 1));
+        check.due("more bytes than told are not taken", 5, x.write(0x2121212174736165L, 4));
+        check.due("a blank and a digit", 7, x.write(' ' | '7' << 8, 2));
+        check.due("low byte first", -1, x.fault());
+        check.due("8 bytes, the last of them above 127", 15, x.write(0xFF20202020202020L, 8));
+        check.due("the byte at the end", 14, x.fault());
+        for (int i = 0; i < 18; i++) {
+            x.write(0x2020202020202020L, 8);
+        }
+        check.due("159", 159, x.count(4));
+        check.due("one too many", -5, x.write(0, 2));
+        check.due("nine ahead of full", -3, x.write(0, 9));
+        check.due("nothing changed", 159, x.count(4));
+        check.due("the last", 160, x.write(0, 1));
+        check.due("full", -5, x.write(0, 1));
+    }
+
+    private static void erasing() {
+        check.promise(7);
+        PennyPost x = new PennyPost();
+        check.due("empty", 0, x.erase());
+        Check.text(x, "to 5 pay 3; ?");
+        check.due("13", 13, x.erase());
+        check.due("again", 0, x.erase());
+        check.due("count", 0, x.count(4));
+        Check.text(x, "free 3");
+        check.due("nothing of the old one", -1, x.fault());
+    }
+
+    private static void faults() {
+        check.promise(8);
+        String[] good = {"to 1 pay 0", "to 999 pay 99", "over 1 pay 0", "over 999 pay 99", "weigh 1", "weigh 64", "free 0",
+            "free 99", "ahead 0", "ahead 99", "least 0", "least 99", "to 005 pay 07", "to5pay3;free2", "  to  5   pay 3  ;  free 2  ",
+            "free 1;free 1;free 1;free 1;free 1;free 1;free 1;free 1"};
+        for (String text : good) {
+            check.due("fault of '" + text + "'", -1, Check.faultOf(text));
+        }
+        Object[][] bad = {{"", 0}, {"   ", 3}, {"to", 2}, {"to ", 3}, {"to 5", 4}, {"to 5 pay", 8}, {"to 5 pay  ", 10}, {"free 1;", 7},
+            {"free 1; ", 8}, {";", 0}, {"free 1;;", 7}, {"free 1 free 2", 7}, {"free 1 2", 7}, {"to 0 pay 3", 3}, {"to 1000 pay 3", 3},
+            {"to 0005 pay 3", 3}, {"to 5 pay 100", 9}, {"over 0 pay 1", 5}, {"over 1 pay 100", 11}, {"weigh 0", 6}, {"weigh 65", 6},
+            {"free 100", 5}, {"ahead 100", 6}, {"least 100", 6}, {"To 5 pay 3", 0}, {"toX", 2}, {"top 5 pay 3", 0}, {"t 5 pay 3", 0},
+            {"to five pay 3", 3}, {"to 5 5 pay 3", 5}, {"to 5 to 3", 5}, {"to 5 pays 3", 5}, {"to 5 pay -3", 9}, {"5", 0}, {"pay 5", 0},
+            {" to 5 pay 3.", 11}, {"weigh 3 pay 2", 8}, {"to\t5 pay 3", 2}, {"free 1\0", 6}, {"to 5 pay 3; free 2; wax 1", 20},
+            {"free 1;free 1;free 1;free 1;free 1;free 1;free 1;free 1;free 1", 55},
+            {"free 1;free 1;free 1;free 1;free 1;free 1;free 1;free 1;", 55},
+            {"free 1;free 1;free 1;free 1;free 1;free 1;free 1;free 1 7", 56}};
+        for (Object[] b : bad) {
+            check.due("fault of '" + b[0] + "'", (Integer) b[1], Check.faultOf((String) b[0]));
+        }
+    }
+
+    private static void forcing() {
+        check.promise(9);
+        PennyPost x = new PennyPost();
+        check.due("an empty text has a fault", -4, x.force(0));
+        check.due("day ahead of the fault", -3, x.force(-1));
+        Check.text(x, "free 1");
+        check.due("day", -3, x.force(1001));
+        check.due("the text stays", 6, x.count(4));
+        check.due("the first", 0, x.force(1000));
+        check.due("the text is empty", 0, x.count(4));
+        check.due("an act", 1, x.count(2));
+        for (int i = 1; i < 5; i++) {
+            check.due("act " + i, i, Check.act(x, "free 1", 0));
+        }
+        check.due("a fault ahead of full", -4, x.force(0));
+        Check.text(x, "free 1");
+        check.due("full", -5, x.force(0));
+        check.due("the text stays", 6, x.count(4));
+        check.due("five", 5, x.count(2));
+    }
+
+    private static void word() {
+        check.promise(10);
+        PennyPost x = new PennyPost();
+        x.way(0, 1, 1, 3, 6, 2, 0);
+        check.due("no act yet", -2, x.knows(0, 0));
+        x.hours(3);
+        Check.act(x, "free 1", 0);
+        check.due("town 0 at once", 3, x.knows(0, 0));
+        check.due("by the way", 11, x.knows(1, 0));
+        check.due("never", -1, x.knows(2, 0));
+        x.way(1, 2, 1, 1, 1, 0, 0);
+        check.due("a later way brings no word", -1, x.knows(2, 0));
+        Check.act(x, "free 1", 0);
+        check.due("but of the next act", 12, x.knows(2, 1));
+        check.due("no town", -2, x.knows(10, 0));
+        check.due("no act", -2, x.knows(0, 2));
+        check.due("no act", -2, x.knows(0, -1));
+    }
+
+    private static void dayActs() {
+        check.promise(11);
+        PennyPost x = new PennyPost();
+        x.way(0, 1, 1, 3, 6, 2, 0);
+        Check.act(x, "free 1", 5);
+        Check.act(x, "free 2", 3);
+        Check.act(x, "free 3", 5);
+        check.due("before all", -1, x.act(0, 0, 2));
+        check.due("the day itself", 1, x.act(0, 0, 3));
+        check.due("the day between", 1, x.act(0, 0, 4));
+        check.due("of two the last", 2, x.act(0, 0, 5));
+        check.due("later", 2, x.act(0, 20000, 1000));
+        check.due("no word yet", -1, x.act(1, 4, 5));
+        check.due("word is there", 2, x.act(1, 5, 5));
+        check.due("never", -1, x.act(2, 20000, 1000));
+        x.hours(7);
+        Check.act(x, "free 4", 4);
+        check.due("forced in hour 7", 1, x.act(0, 6, 4));
+        check.due("forced in hour 7", 3, x.act(0, 7, 4));
+        check.due("greatest day ahead of the last forced", 2, x.act(0, 7, 6));
+        check.due("word of it later", 1, x.act(1, 10, 4));
+        check.due("word of it", 3, x.act(1, 11, 4));
+        check.due("no town", -2, x.act(10, -1, 0));
+        check.due("hour", -3, x.act(0, -1, 0));
+        check.due("hour", -3, x.act(0, 20001, 0));
+        check.due("day", -3, x.act(0, 0, -1));
+        check.due("day", -3, x.act(0, 0, 1001));
+    }
+
+    private static int postage(String act, int miles, int sheets, int drams, boolean ahead) {
+        PennyPost x = new PennyPost();
+        check.due("'" + act + "'", 0, Check.act(x, act, 0));
+        return x.postage(0, miles, sheets, drams, ahead);
+    }
+
+    private static void postages() {
+        check.promise(12);
+        check.due("to, its mile", 4, postage("to 15 pay 4", 15, 1, 1, false));
+        check.due("to, beyond", -1, postage("to 15 pay 4", 16, 1, 1, false));
+        check.due("the least that is enough", 2, postage("to 50 pay 6; to 20 pay 2; to 30 pay 3", 20, 1, 1, false));
+        check.due("of two alike the first", 6, postage("to 50 pay 6; to 50 pay 2", 50, 1, 1, false));
+        check.due("over begun", 7, postage("to 50 pay 6; to 20 pay 9; over 10 pay 1", 51, 1, 1, false));
+        check.due("over whole", 7, postage("to 50 pay 6; over 10 pay 1", 60, 1, 1, false));
+        check.due("over begun again", 8, postage("to 50 pay 6; over 10 pay 1", 61, 1, 1, false));
+        check.due("over: of the greatest to the first", 7, postage("to 50 pay 6; to 50 pay 2; over 10 pay 1", 51, 1, 1, false));
+        check.due("the first over", 7, postage("to 50 pay 6; over 10 pay 1; over 100 pay 5", 51, 1, 1, false));
+        check.due("to ahead of over", 6, postage("over 10 pay 1; to 50 pay 6", 50, 1, 1, false));
+        check.due("over without to", 6, postage("over 10 pay 3", 11, 1, 1, false));
+        check.due("over without to, no miles", 0, postage("over 10 pay 3", 0, 1, 1, false));
+        check.due("neither", -1, postage("free 3; least 4", 0, 1, 1, false));
+        check.due("sheets", 36, postage("to 15 pay 4", 0, 9, 64, false));
+        check.due("weigh", 12, postage("to 15 pay 4; weigh 3", 0, 9, 7, false));
+        check.due("weigh, whole", 8, postage("to 15 pay 4; weigh 3", 0, 9, 6, false));
+        check.due("the first weigh", 4, postage("weigh 64; to 15 pay 4; weigh 3", 0, 9, 64, false));
+        check.due("ahead clauses together", 3, postage("to 15 pay 9; ahead 2; ahead 4", 0, 1, 1, true));
+        check.due("not ahead", 9, postage("to 15 pay 9; ahead 2; ahead 4", 0, 1, 1, false));
+        check.due("0 at least", 0, postage("to 15 pay 9; ahead 20", 0, 1, 1, true));
+        check.due("the greatest least", 5, postage("to 15 pay 9; ahead 20; least 5; least 3", 0, 1, 1, true));
+        check.due("least below", 9, postage("to 15 pay 9; least 5", 0, 1, 1, false));
+        check.due("the most", 5000 * 99 * 64, postage("over 1 pay 99; weigh 1", 5000, 1, 64, false));
+        PennyPost x = new PennyPost();
+        check.due("no act", -2, x.postage(0, -1, 0, 0, false));
+        Check.act(x, "over 1 pay 1", 0);
+        check.due("act ahead of numbers", -2, x.postage(1, -1, 0, 0, false));
+        check.due("miles", -3, x.postage(0, -1, 1, 1, false));
+        check.due("miles", -3, x.postage(0, 5001, 1, 1, false));
+        check.due("sheets", -3, x.postage(0, 0, 0, 1, false));
+        check.due("sheets", -3, x.postage(0, 0, 10, 1, false));
+        check.due("drams", -3, x.postage(0, 0, 1, 0, false));
+        check.due("drams", -3, x.postage(0, 0, 1, 65, false));
+    }
+
+    private static int clause(String act, int miles) {
+        PennyPost x = new PennyPost();
+        Check.act(x, act, 0);
+        return x.why(0, miles);
+    }
+
+    private static void clauses() {
+        check.promise(13);
+        check.due("to", 1, clause("to 50 pay 6; to 20 pay 2", 20));
+        check.due("to", 0, clause("to 50 pay 6; to 20 pay 2", 21));
+        check.due("first of alike", 1, clause("free 2; to 50 pay 6; to 50 pay 2", 50));
+        check.due("over", 1, clause("to 50 pay 6; over 20 pay 2; over 30 pay 1", 51));
+        check.due("none", -1, clause("to 50 pay 6; free 1", 51));
+        check.due("the eighth", 7, clause("free 1;free 1;free 1;free 1;free 1;free 1;free 1;over 9 pay 9", 5000));
+        PennyPost x = new PennyPost();
+        check.due("no act", -2, x.why(0, 0));
+        Check.act(x, "over 1 pay 1", 0);
+        check.due("no act", -2, x.why(-1, -1));
+        check.due("miles", -3, x.why(0, -1));
+        check.due("miles", -3, x.why(0, 5001));
+    }
+}
