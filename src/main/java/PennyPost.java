@@ -57,7 +57,8 @@ public final class PennyPost {
     public int next(int a, int b, int hour) {
         if (!isTown(a) || !isTown(b)) return UNKNOWN;
         if (!within(hour, 0, LAST_ASKED_HOUR)) return OUTSIDE;
-        return land.bestWay(a, b, hour);
+        int end = land.bestEnd(a, b, hour);
+        return end == NONE ? NONE : end / 2;
     }
 
     // ---- acts
@@ -424,24 +425,24 @@ public final class PennyPost {
         final Distances miles = new Distances(TOWNS);
         final int[] travel = new int[MOST_WAYS];
         final int[] cost = new int[MOST_WAYS];
-        private final int[] oneEnd = new int[MOST_WAYS];
-        private final int[] otherEnd = new int[MOST_WAYS];
+        /** Both ends of each way side by side: place by 2 is the way, and place ^ 1 its other end. */
+        final int[] ends = new int[2 * MOST_WAYS];
         private final int[] every = new int[MOST_WAYS];
         private final int[] first = new int[MOST_WAYS];
         /** The least hour in each town, as spreadFrom() left it. */
-        private final int[] reached = new int[TOWNS];
+        final int[] reached = new int[TOWNS];
         int ways;
 
         boolean hasWay(int a, int b) {
-            for (int w = 0; w < ways; w++) {
-                if (touches(w, a) && touches(w, b)) return true;
+            for (int end = 0; end < 2 * ways; end++) {
+                if (ends[end] == a && ends[end ^ 1] == b) return true;
             }
             return false;
         }
 
         int addWay(int a, int b, int length, int hours, int each, int start, int pence) {
-            oneEnd[ways] = a;
-            otherEnd[ways] = b;
+            ends[2 * ways] = a;
+            ends[2 * ways + 1] = b;
             travel[ways] = hours;
             every[ways] = each;
             first[ways] = start;
@@ -455,67 +456,55 @@ public final class PennyPost {
             return reached[to];
         }
 
-        int bestWay(int from, int to, int hour) {
+        /** The end by which one leaves for another town, so as to be there when it is due; NONE. */
+        int bestEnd(int from, int to, int hour) {
             if (from == to) return NONE;
-            int soonest = arrival(from, to, hour);
+            spreadFrom(from, hour);
+            int soonest = reached[to];
             if (soonest == NONE) return NONE;
-            for (int w = 0; w < ways; w++) {
-                if (!touches(w, from)) continue;
-                int there = departure(w, hour) + travel[w];
-                if (there <= soonest && arrival(farEnd(w, from), to, there) == soonest) return w;
+            for (int end = 0; end < 2 * ways; end++) {
+                if (ends[end] != from) continue;
+                int there = departure(end / 2, hour) + travel[end / 2];
+                if (there > soonest) continue;
+                spreadFrom(ends[end ^ 1], there);
+                if (reached[to] == soonest) return end;
             }
             return NONE;
         }
 
-        boolean leavesIn(int w, int hour) {
-            return departure(w, hour) == hour;
+        boolean leavesIn(int way, int hour) {
+            return departure(way, hour) == hour;
         }
 
         boolean anyLeaves(int town, int hour) {
-            for (int w = 0; w < ways; w++) {
-                if (touches(w, town) && leavesIn(w, hour)) return true;
+            for (int end = 0; end < 2 * ways; end++) {
+                if (ends[end] == town && leavesIn(end / 2, hour)) return true;
             }
             return false;
         }
 
-        int farEnd(int w, int town) {
-            return oneEnd[w] == town ? otherEnd[w] : oneEnd[w];
-        }
-
-        /** Numbers each end of each way: what leaves by one number in one hour is a run. */
-        int runFrom(int w, int town) {
-            return oneEnd[w] == town ? 2 * w : 2 * w + 1;
-        }
-
-        private boolean touches(int w, int town) {
-            return oneEnd[w] == town || otherEnd[w] == town;
-        }
-
-        private int departure(int w, int hour) {
-            if (every[w] < 1) return hour;
-            return hour + Math.floorMod(first[w] - hour, every[w]);
-        }
-
         /** To leave later is never to arrive sooner, so the least hours settle in fewer rounds than towns. */
-        private void spreadFrom(int town, int hour) {
+        void spreadFrom(int town, int hour) {
             Arrays.fill(reached, NONE);
             reached[town] = hour;
             boolean sooner = true;
             for (int round = 0; round < TOWNS && sooner; round++) {
                 sooner = false;
-                for (int w = 0; w < ways; w++) {
-                    if (ride(w, oneEnd[w], otherEnd[w])) sooner = true;
-                    if (ride(w, otherEnd[w], oneEnd[w])) sooner = true;
+                for (int end = 0; end < 2 * ways; end++) {
+                    int here = reached[ends[end]];
+                    if (here == NONE) continue;
+                    int there = departure(end / 2, here) + travel[end / 2];
+                    int to = ends[end ^ 1];
+                    if (reached[to] != NONE && reached[to] <= there) continue;
+                    reached[to] = there;
+                    sooner = true;
                 }
             }
         }
 
-        private boolean ride(int w, int from, int to) {
-            if (reached[from] == NONE) return false;
-            int hour = departure(w, reached[from]) + travel[w];
-            if (reached[to] != NONE && reached[to] <= hour) return false;
-            reached[to] = hour;
-            return true;
+        private int departure(int way, int hour) {
+            if (every[way] < 1) return hour;
+            return hour + Math.floorMod(first[way] - hour, every[way]);
         }
     }
 
@@ -642,18 +631,20 @@ public final class PennyPost {
         /** The to clause with the least miles that are enough, else the first over clause. */
         int clauseFor(int miles) {
             int best = NONE;
+            int over = NONE;
             for (int c = 0; c < clauses; c++) {
                 if (kinds[c] == TO && numbers[c] >= miles && (best == NONE || numbers[c] < numbers[best])) best = c;
+                if (kinds[c] == OVER && over == NONE) over = c;
             }
-            return best == NONE ? firstOf(OVER) : best;
+            return best == NONE ? over : best;
         }
 
         /** Miles below 0 stand for towns that are not joined: nothing is told for them. */
         int charge(int miles, int sheets, int drams, boolean ahead) {
-            int pence = miles < 0 ? NONE : penceFor(miles);
-            if (pence == NONE) return NONE;
-            int weigh = firstOf(WEIGH);
-            int sum = pence * (weigh == NONE ? sheets : upBy(drams, numbers[weigh]));
+            int told = miles < 0 ? NONE : penceFor(miles);
+            if (told == NONE) return NONE;
+            int weigh = firstWeigh();
+            int sum = told * (weigh == NONE ? sheets : upBy(drams, numbers[weigh]));
             int least = 0;
             for (int c = 0; c < clauses; c++) {
                 if (kinds[c] == AHEAD && ahead) sum -= numbers[c];
@@ -688,9 +679,9 @@ public final class PennyPost {
             return widest;
         }
 
-        private int firstOf(int kind) {
+        private int firstWeigh() {
             for (int c = 0; c < clauses; c++) {
-                if (kinds[c] == kind) return c;
+                if (kinds[c] == WEIGH) return c;
             }
             return NONE;
         }
@@ -753,7 +744,7 @@ public final class PennyPost {
         int paid;
         int borne;
         int ended;
-        /** The run by which it left in this hour, until that run's cost is parted. */
+        /** The end of a way from which it left in this hour, until the cost of that run is parted; else NONE. */
         int run;
         /** What was cut off its part of that cost. */
         int cut;
@@ -903,12 +894,12 @@ public final class PennyPost {
         }
 
         private void leave(Letter letter) {
-            int w = land.bestWay(letter.town, letter.goal, hour);
-            if (w == NONE || !land.leavesIn(w, hour)) return;
+            int end = land.bestEnd(letter.town, letter.goal, hour);
+            if (end == NONE || !land.leavesIn(end / 2, hour)) return;
             letter.state = ON_WAY;
-            letter.comesTo = land.farEnd(w, letter.town);
-            letter.comesIn = hour + land.travel[w];
-            letter.run = land.runFrom(w, letter.town);
+            letter.comesTo = land.ends[end ^ 1];
+            letter.comesIn = hour + land.travel[end / 2];
+            letter.run = end;
         }
 
         private void partRuns() {
@@ -998,8 +989,8 @@ public final class PennyPost {
             for (int i = 0; i < meetings; i++) {
                 if (who[i] != letter.with) continue;
                 boolean before = when[i] <= letter.written;
-                if (before && !canBe(where[i], letter.from, when[i], letter.written)) return true;
-                if (!before && !canBe(letter.from, where[i], letter.written, when[i])) return true;
+                if (before && !isDueBy(where[i], letter.from, when[i], letter.written)) return true;
+                if (!before && !isDueBy(letter.from, where[i], letter.written, when[i])) return true;
             }
             return false;
         }
@@ -1025,22 +1016,23 @@ public final class PennyPost {
             return rows - 1;
         }
 
+        /** A letter is given behind the hour in which it was written, so none can be washed from itself. */
         private void findWashable(int set) {
             for (int i = 0; i < mail.count; i++) {
+                Letter one = mail.letters[i];
                 ahead[i] = NONE;
                 washable[i] = 0;
-                if ((set >> i & 1) == 0) continue;
+                if ((set >> i & 1) == 0 || one.state != GIVEN) continue;
+                land.spreadFrom(one.to, one.ended + rules[WASH]);
                 for (int j = 0; j < mail.count; j++) {
-                    if (j != i && (set >> j & 1) != 0 && canBeWashed(mail.letters[i], mail.letters[j])) washable[i] |= 1 << j;
+                    Letter other = mail.letters[j];
+                    int there = land.reached[other.from];
+                    if ((set >> j & 1) != 0 && there != NONE && there <= other.written) washable[i] |= 1 << j;
                 }
             }
         }
 
-        private boolean canBeWashed(Letter one, Letter other) {
-            return one.state == GIVEN && canBe(one.to, other.from, one.ended + rules[WASH], other.written);
-        }
-
-        private boolean canBe(int from, int to, int hour, int by) {
+        private boolean isDueBy(int from, int to, int hour, int by) {
             int there = land.arrival(from, to, hour);
             return there != NONE && there <= by;
         }

@@ -59,7 +59,8 @@ public final class ActsTest {
         Object[][] bad = {{"", 0}, {"   ", 3}, {"to", 2}, {"to ", 3}, {"to 5", 4}, {"to 5 pay", 8}, {"to 5 pay  ", 10}, {"free 1;", 7},
             {"free 1; ", 8}, {";", 0}, {"free 1;;", 7}, {"free 1 free 2", 7}, {"free 1 2", 7}, {"to 0 pay 3", 3}, {"to 1000 pay 3", 3},
             {"to 0005 pay 3", 3}, {"to 5 pay 100", 9}, {"over 0 pay 1", 5}, {"over 1 pay 100", 11}, {"weigh 0", 6}, {"weigh 65", 6},
-            {"free 100", 5}, {"ahead 100", 6}, {"least 100", 6}, {"To 5 pay 3", 0}, {"toX", 2}, {"top 5 pay 3", 0}, {"t 5 pay 3", 0},
+            {"free 100", 5}, {"ahead 100", 6}, {"least 100", 6}, {"To 5 pay 3", 0}, {"toX", 2}, {"toz 5 pay 3", 0}, {"toa 5 pay 3", 0}, {"lo 5 pay 3", 0}, {"to 5 bay 3", 5}, {"to 9: pay 3", 4}, {"to / pay 3", 3},
+            {"to`", 2}, {"to{", 2}, {"top 5 pay 3", 0}, {"t 5 pay 3", 0},
             {"to five pay 3", 3}, {"to 5 5 pay 3", 5}, {"to 5 to 3", 5}, {"to 5 pays 3", 5}, {"to 5 pay -3", 9}, {"5", 0}, {"pay 5", 0},
             {" to 5 pay 3.", 11}, {"weigh 3 pay 2", 8}, {"to\t5 pay 3", 2}, {"free 1\0", 6}, {"to 5 pay 3; free 2; wax 1", 20},
             {"free 1;free 1;free 1;free 1;free 1;free 1;free 1;free 1;free 1", 55},
@@ -122,6 +123,7 @@ public final class ActsTest {
         check.due("the day between", 1, x.act(0, 0, 4));
         check.due("of two the last", 2, x.act(0, 0, 5));
         check.due("later", 2, x.act(0, 20000, 1000));
+        check.due("the first day and hour", -1, x.act(0, 0, 0));
         check.due("no word yet", -1, x.act(1, 4, 5));
         check.due("word is there", 2, x.act(1, 5, 5));
         check.due("never", -1, x.act(2, 20000, 1000));
@@ -169,6 +171,9 @@ public final class ActsTest {
         check.due("0 at least", 0, postage("to 15 pay 9; ahead 20", 0, 1, 1, true));
         check.due("the greatest least", 5, postage("to 15 pay 9; ahead 20; least 5; least 3", 0, 1, 1, true));
         check.due("least below", 9, postage("to 15 pay 9; least 5", 0, 1, 1, false));
+        check.due("free clauses are not ahead clauses", 9, postage("free 3; to 15 pay 9; free 2", 0, 1, 1, true));
+        check.due("ahead and least as first clauses", 6, postage("ahead 3; to 15 pay 9; least 5", 0, 1, 1, true));
+        check.due("ahead and least as first clauses", 8, postage("least 8; to 15 pay 9; ahead 3", 0, 1, 1, true));
         check.due("the most", 5000 * 99 * 64, postage("over 1 pay 99; weigh 1", 5000, 1, 64, false));
         PennyPost x = new PennyPost();
         check.due("no act", -2, x.postage(0, -1, 0, 0, false));
@@ -193,6 +198,7 @@ public final class ActsTest {
         check.due("to", 1, clause("to 50 pay 6; to 20 pay 2", 20));
         check.due("to", 0, clause("to 50 pay 6; to 20 pay 2", 21));
         check.due("first of alike", 1, clause("free 2; to 50 pay 6; to 50 pay 2", 50));
+        check.due("no miles", 0, clause("to 50 pay 6", 0));
         check.due("over", 1, clause("to 50 pay 6; over 20 pay 2; over 30 pay 1", 51));
         check.due("none", -1, clause("to 50 pay 6; free 1", 51));
         check.due("the eighth", 7, clause("free 1;free 1;free 1;free 1;free 1;free 1;free 1;over 9 pay 9", 5000));

@@ -34,6 +34,7 @@ public final class DoorsTest {
         x.doors(3);
         check.due("no door", -2, x.path(-1, 0, 0));
         check.due("no door", -2, x.path(0, 3, 1));
+        check.due("no door", -2, x.path(3, 0, 1));
         check.due("no door", -2, x.path(3, 3, 1));
         check.due("one and itself", -3, x.path(1, 1, 1));
         check.due("length", -3, x.path(0, 1, 0));

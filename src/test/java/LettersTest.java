@@ -354,8 +354,13 @@ public final class LettersTest {
         x.hours(1);
         borne(x, "each end of each way", 6, 11, 5, 5);
         check.due("three runs", 27, x.count(6));
+        x.letter(2, 0, 1, 1, 0, 0, 0);
+        x.letter(0, 2, 1, 1, 0, 0, 0);
+        x.hours(1);
+        borne(x, "both ends of the second way", 6, 11, 5, 5, 5, 5);
+        check.due("five runs", 37, x.count(6));
         x.hours(4);
-        check.due("no run without letters", 27, x.count(6));
+        check.due("no run without letters", 37, x.count(6));
     }
 
     private static void lookingAt() {
@@ -423,6 +428,17 @@ public final class LettersTest {
         }
         check.due("what", -3, x.set(-1, 0));
         check.due("what", -3, x.set(7, 0));
+        PennyPost first = new PennyPost();
+        first.way(0, 1, 1, 1, 1, 0, 100);
+        first.letter(0, 1, 9, 1, 0, 0, 0);
+        first.letter(0, 1, 1, 64, 0, 0, 0);
+        first.hours(1);
+        borne(first, "KEY 0 at first", 50, 50);
+        first.set(2, 1);
+        first.set(3, 0);
+        check.due("LIMIT 0 at first: a penny is above it", 0, first.judge(0, 1, 2));
+        first.set(2, 0);
+        check.due("LIMIT 0 at first: nothing is not", -1, first.judge(0, 1, 2));
         PennyPost y = new PennyPost();
         y.set(2, 7);
         y.set(2, -1);

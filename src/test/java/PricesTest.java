@@ -81,17 +81,19 @@ public final class PricesTest {
         check.due("by smugglers", 60, x.year(4, 1));
         check.due("no income by them", 0, x.year(4, 2));
         check.due("no loss by them", 1000, x.year(4, 3));
-        check.due("above its worth too", 60, x.year(6, 1));
+        x.want(0, 1, 7, 3, 1);
+        check.due("all by smugglers together", 67, x.year(4, 1));
+        check.due("above its worth too", 67, x.year(6, 1));
         x.set(6, 5);
         check.due("smugglers at its worth", 60, x.year(6, 1));
         x.set(6, 6);
         check.due("smugglers above it", 0, x.year(7, 1));
         check.due("the post below them", 60, x.year(5, 0));
         x.set(6, 0);
-        check.due("for nothing", 60, x.year(0, 0));
-        check.due("for nothing", 60, x.year(1, 1));
+        check.due("for nothing", 67, x.year(0, 0));
+        check.due("for nothing", 67, x.year(1, 1));
         x.set(6, -1);
-        check.due("none again", 60, x.year(1, 0));
+        check.due("none again", 67, x.year(1, 0));
         check.due("none again", 0, x.year(6, 1));
     }
 
@@ -164,6 +166,12 @@ public final class PricesTest {
         check.due("smugglers for less", 0, x.under(0, 1));
         x.set(6, 6);
         check.due("smugglers for as much", 60, x.under(0, 1));
+        PennyPost z = one(10, 99, 1);
+        z.way(0, 1, 10, 1, 1, 0, 0);
+        Check.act(z, "to 10 pay 3; weigh 7", 0);
+        Check.act(z, "to 10 pay 3; weigh 8", 0);
+        check.due("8 drams are more than 7", 60, z.under(0, 1));
+        check.due("8 drams are no more than 8", 30, z.under(1, 1));
         PennyPost y = one(10, 2, 6);
         y.way(0, 1, 10, 1, 1, 0, 0);
         Check.act(y, "to 10 pay 3", 0);
