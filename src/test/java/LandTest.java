@@ -41,6 +41,9 @@ public final class LandTest {
         check.due("least", 0, x.way(0, 1, 1, 1, 1, 0, 0));
         check.due("most", 1, x.way(9, 8, 200, 40, 24, 23, 999));
         check.due("there is one", -4, x.way(1, 0, 5, 5, 5, 0, 5));
+        check.due("there is one, told as it was", -4, x.way(0, 1, 5, 5, 5, 0, 5));
+        check.due("there is one, the second", -4, x.way(9, 8, 5, 5, 5, 0, 5));
+        check.due("there is one, the second", -4, x.way(8, 9, 5, 5, 5, 0, 5));
         check.due("numbers ahead of there is one", -3, x.way(1, 0, 5, 5, 5, 5, 5));
         int made = 2;
         for (int a = 1; a < 8 && made < 16; a++) {

@@ -133,6 +133,10 @@ public final class PricesTest {
         x.set(2, 0);
         x.set(3, 0);
         check.due("at once", 0, x.even());
+        PennyPost none = new PennyPost();
+        check.due("nothing to cover FIXED", -1, none.even());
+        none.set(2, 0);
+        check.due("nothing to cover", 0, none.even());
         PennyPost y = one(1, 99, 60);
         y.set(2, 99 * 60 - 10);
         check.due("the last price", 99, y.even());
