@@ -6,10 +6,13 @@ public final class ActsTest {
         writing();
         erasing();
         faults();
+        fullTexts();
         forcing();
         word();
+        farWord();
         dayActs();
         postages();
+        eighthClauses();
         clauses();
         check.end();
     }
@@ -71,6 +74,29 @@ public final class ActsTest {
         }
     }
 
+    /** Texts of 160 bytes. */
+    private static void fullTexts() {
+        check.promise(8);
+        check.due("blanks behind", -1, Check.faultOf("to 9 pay 1" + " ".repeat(150)));
+        check.due("blanks ahead", -1, Check.faultOf(" ".repeat(150) + "to 9 pay 1"));
+        check.due("at the end, too soon", 160, Check.faultOf("to 9 pay" + " ".repeat(152)));
+        check.due("at the end, blanks alone", 160, Check.faultOf(" ".repeat(160)));
+        check.due("at the end, behind a clause", 160, Check.faultOf(" ".repeat(153) + "free 1;"));
+        check.due("the last byte", 159, Check.faultOf("to 9 pay 1" + " ".repeat(149) + "x"));
+        check.due("the last token", 156, Check.faultOf(" ".repeat(150) + "weigh 1000"));
+        check.due("a row of 160 letters", 0, Check.faultOf("o".repeat(160)));
+        check.due("a row of 155 digits", 5, Check.faultOf("free " + "0".repeat(155)));
+        String eight = "over 999 pay 99;to 999 pay 99;weigh 64;free 99;ahead 99;least 99;over 1 pay 0;to 1 pay 0";
+        check.due("eight clauses", -1, Check.faultOf(eight + " ".repeat(160 - eight.length())));
+        check.promise(9);
+        PennyPost x = new PennyPost();
+        check.due("all of it", 160, Check.text(x, eight + " ".repeat(160 - eight.length())));
+        check.due("forced", 0, x.force(0));
+        check.due("empty then", 0, x.count(4));
+        check.due("and may be written again", 1, x.write('t', 1));
+        check.due("nothing of the old one", 0, x.fault());
+    }
+
     private static void forcing() {
         check.promise(9);
         PennyPost x = new PennyPost();
@@ -109,6 +135,34 @@ public final class ActsTest {
         check.due("no town", -2, x.knows(10, 0));
         check.due("no act", -2, x.knows(0, 2));
         check.due("no act", -2, x.knows(0, -1));
+    }
+
+    /** Word that goes by nine ways, and word in the last hour. */
+    private static void farWord() {
+        check.promise(10);
+        PennyPost x = new PennyPost();
+        for (int a = 8; a >= 0; a--) {
+            x.way(a, a + 1, 1, 40, 24, 23, 0);
+        }
+        x.hours(24);
+        Check.act(x, "free 1", 0);
+        check.due("at once", 24, x.knows(0, 0));
+        check.due("by one way", 87, x.knows(1, 0));
+        check.due("by nine ways", 87 + 8 * 48, x.knows(9, 0));
+        check.promise(11);
+        check.due("an hour ahead", -1, x.act(9, 86 + 8 * 48, 0));
+        check.due("in that hour", 0, x.act(9, 87 + 8 * 48, 0));
+        check.promise(10);
+        for (int hour = 24; hour < 9000; hour += 60) {
+            x.hours(Math.min(60, 9000 - hour));
+        }
+        check.due("in hour 9000", 9000, x.count(0));
+        Check.act(x, "free 2", 0);
+        check.due("at once", 9000, x.knows(0, 1));
+        check.due("beyond 9000", 9000 + 63, x.knows(1, 1));
+        check.promise(11);
+        check.due("beyond 9000", 0, x.act(1, 9062, 0));
+        check.due("beyond 9000", 1, x.act(1, 9063, 0));
     }
 
     private static void dayActs() {
@@ -185,6 +239,36 @@ public final class ActsTest {
         check.due("sheets", -3, x.postage(0, 0, 10, 1, false));
         check.due("drams", -3, x.postage(0, 0, 1, 0, false));
         check.due("drams", -3, x.postage(0, 0, 1, 65, false));
+    }
+
+    /** The eighth clause tells as the first does. */
+    private static void eighthClauses() {
+        check.promise(12);
+        String free = "free 1;".repeat(6);
+        check.due("to", 5, postage("to 9 pay 6;" + free + "to 8 pay 5", 8, 1, 1, false));
+        check.due("the greatest to", 6, postage("over 1 pay 1;" + free + "to 9 pay 5", 10, 1, 1, false));
+        check.due("over", 7, postage("to 9 pay 6;" + free + "over 5 pay 1", 10, 1, 1, false));
+        check.due("weigh", 15, postage("to 9 pay 5;" + free + "weigh 2", 9, 1, 5, false));
+        check.due("ahead", 3, postage("to 9 pay 5;" + free + "ahead 2", 9, 1, 1, true));
+        check.due("least", 7, postage("to 9 pay 5;" + free + "least 7", 9, 1, 1, false));
+        check.due("bounds of both", 0, postage("to 9 pay 5; ahead 99; ahead 99; least 0", 9, 9, 64, true));
+        check.due("most of both", 99, postage("to 9 pay 5; ahead 99; ahead 99; least 99", 9, 9, 64, true));
+        check.due("no pence, though there is a least", -1, postage("to 9 pay 5; least 7", 10, 1, 1, true));
+        check.due("pay 0", 0, postage("to 9 pay 0", 9, 9, 64, false));
+        check.due("weigh 1", 64 * 5, postage("to 9 pay 5; weigh 1", 9, 1, 64, false));
+        check.due("weigh 64, as much", 5, postage("to 9 pay 5; weigh 64", 9, 1, 64, false));
+        check.due("weigh 64, a dram", 5, postage("to 9 pay 5; weigh 64", 9, 9, 1, false));
+        check.due("over 999 of 999", 3, postage("over 999 pay 3", 999, 1, 1, false));
+        check.due("over 999 of 1000", 6, postage("over 999 pay 3", 1000, 1, 1, false));
+        check.due("to 999", 2, postage("to 999 pay 2; over 999 pay 3", 999, 1, 1, false));
+        check.due("beyond to 999", 5, postage("to 999 pay 2; over 999 pay 3", 1998, 1, 1, false));
+        check.due("a mile more", 8, postage("to 999 pay 2; over 999 pay 3", 1999, 1, 1, false));
+        check.promise(22);
+        PennyPost x = new PennyPost();
+        x.letter(0, 1, 1, 1, 0, 2, 0);
+        x.letter(0, 1, 1, 1, 0, 2, 0);
+        Check.act(x, "free 0;".repeat(7) + "free 1", 0);
+        check.due("free", 1, x.more(0, 0));
     }
 
     private static int clause(String act, int miles) {

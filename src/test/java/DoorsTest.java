@@ -7,7 +7,10 @@ public final class DoorsTest {
         paths();
         boxes();
         walks();
+        reaches();
+        againFull();
         againstAll();
+        againstOrders();
         most();
         check.end();
     }
@@ -100,6 +103,68 @@ public final class DoorsTest {
         check.due("round by what is on the way", 17, x.walk(18));
     }
 
+    /** REACH at its least and its most, held against doors in a row. */
+    private static void reaches() {
+        check.promise(27);
+        PennyPost x = new PennyPost();
+        x.doors(12);
+        for (int i = 0; i < 11; i++) {
+            x.path(i, i + 1, i == 6 ? 20 : i < 6 ? 30 : 1);
+        }
+        check.due("reach 0: a box at each", 12, x.boxes(0, 0));
+        check.due("reach 0: a box at each", 4095, x.boxes(0, 1));
+        check.due("reach 1", 6 + 3, x.boxes(1, 0));
+        check.due("reach 199: 0 to 7 are 200", 1, x.boxes(199, 0));
+        PennyPost y = new PennyPost();
+        y.doors(2);
+        y.path(0, 1, 30);
+        check.due("just in reach", 1, y.boxes(30, 0));
+        check.due("just in reach", 1, y.boxes(30, 1));
+        check.due("a step too far", 2, y.boxes(29, 0));
+        check.due("a step too far", 3, y.boxes(29, 1));
+        PennyPost z = new PennyPost();
+        z.doors(12);
+        // door 0 between rows of 6 and of 5 doors, so that their ends are 180 and 150 from it
+        for (int i = 1; i < 12; i++) {
+            z.path(i, i < 3 ? 0 : i - 2, 30);
+        }
+        check.due("doors 0 and 1 reach as far: the least", 1, z.boxes(180, 1));
+        check.due("neither alone: both, of several the least", 3, z.boxes(179, 1));
+        check.due("as many for less", 2, z.boxes(90, 0));
+    }
+
+    /** New doors have room for 24 paths again, and nothing of the old ones. */
+    private static void againFull() {
+        check.promise(25);
+        PennyPost x = new PennyPost();
+        x.doors(12);
+        for (int i = 0; i < 24; i++) {
+            x.path(i % 12, (i + 1) % 12, 1);
+        }
+        check.due("full", -5, x.path(0, 5, 1));
+        check.due("refused", -3, x.doors(13));
+        check.due("24 still", 24, x.count(11));
+        check.due("joined still", 12, x.walk(4095));
+        check.due("twelve", 12, x.doors(11));
+        check.promise(26);
+        check.due("no door 11", -2, x.path(0, 11, 1));
+        check.promise(28);
+        check.due("no door 11", -3, x.walk(2048));
+        check.due("nothing joined", -1, x.walk(1024));
+        check.promise(27);
+        check.due("nothing joined", 2047, x.boxes(200, 1));
+        check.promise(26);
+        for (int i = 1; i <= 24; i++) {
+            check.due("path " + i, i, x.path(9, 10, 2));
+        }
+        check.due("full again", -5, x.path(0, 10, 1));
+        check.promise(25);
+        check.due("eleven", 11, x.doors(12));
+        check.promise(28);
+        check.due("nothing joined", -1, x.walk(2));
+        check.due("door 0 alone", 0, x.walk(1));
+    }
+
     /** Holds boxes and walks against all sets and all orders, in small random streets. */
     private static void againstAll() {
         Check.Dice dice = new Check.Dice(27);
@@ -137,6 +202,45 @@ public final class DoorsTest {
             for (int set = 0; set < 1 << n; set++) {
                 int length = shortest(far, 0, set & ~1);
                 check.due("run " + run + " walk " + set, length >= 9999 ? -1 : length, x.walk(set));
+            }
+        }
+    }
+
+    /** Walks by nine doors, held against all orders. */
+    private static void againstOrders() {
+        check.promise(28);
+        Check.Dice dice = new Check.Dice(28);
+        for (int run = 0; run < 6; run++) {
+            PennyPost x = new PennyPost();
+            int n = 9;
+            x.doors(n + run % 4);
+            int[][] far = new int[n][n];
+            for (int i = 1; i < n; i++) {
+                int length = dice.from(1, 30);
+                int to = dice.below(i);
+                x.path(i, to, length);
+                for (int j = 0; j < i; j++) {
+                    far[i][j] = far[j][i] = far[to][j] + length;
+                }
+            }
+            for (int i = 0; i < 10; i++) {
+                int a = dice.below(n);
+                int b = dice.below(n);
+                int length = dice.from(1, 30);
+                if (x.path(a, b, length) > 0) shorten(far, a, b, length);
+            }
+            for (int ask = 0; ask < 6; ask++) {
+                int set = ask == 0 ? 511 : dice.below(512);
+                check.due("run " + run + " walk " + set, shortest(far, 0, set & ~1), x.walk(set));
+            }
+        }
+    }
+
+    private static void shorten(int[][] far, int a, int b, int length) {
+        for (int i = 0; i < far.length; i++) {
+            for (int j = 0; j < far.length; j++) {
+                int by = Math.min(far[i][a] + far[b][j], far[i][b] + far[a][j]) + length;
+                far[i][j] = Math.min(far[i][j], by);
             }
         }
     }

@@ -8,6 +8,8 @@ public final class LandTest {
         farthest();
         hours();
         nextWays();
+        row();
+        leaving();
         againstFloods();
         check.end();
     }
@@ -116,6 +118,43 @@ public final class LandTest {
         check.due("hour", -3, x.next(0, 0, 20001));
         x.way(2, 1, 1, 4, 1, 0, 0);
         check.due("alike by both: the least", 0, x.next(0, 2, 4));
+    }
+
+    /** Ten towns in a row, by ways that are as long as can be, told from the far end. */
+    private static void row() {
+        PennyPost x = new PennyPost();
+        for (int a = 8; a >= 0; a--) {
+            x.way(a, a + 1, 200, 40, 24, 23, 999);
+        }
+        check.promise(3);
+        check.due("far(0, 9)", 1800, x.far(0, 9));
+        check.due("far(9, 0)", 1800, x.far(9, 0));
+        check.promise(4);
+        check.due("from hour 23, two days for each way", 63 + 8 * 48, x.due(0, 9, 0));
+        check.due("from the other end", 63 + 8 * 48, x.due(9, 0, 0));
+        check.due("the hour itself", 63 + 8 * 48, x.due(0, 9, 23));
+        check.due("an hour too late", 87 + 8 * 48, x.due(0, 9, 24));
+        check.due("from the last hour", 20055 + 8 * 48, x.due(9, 0, 20000));
+        check.promise(5);
+        check.due("the way told last", 8, x.next(0, 9, 0));
+        check.due("the way told first", 0, x.next(9, 0, 20000));
+        check.due("onwards", 3, x.next(5, 9, 0));
+        check.due("back", 4, x.next(5, 0, 0));
+    }
+
+    /** In which hours a way leaves, by EVERY and FIRST at their least and most. */
+    private static void leaving() {
+        check.promise(4);
+        int[][] everyFirst = {{1, 0}, {2, 0}, {2, 1}, {24, 0}, {24, 23}, {23, 22}};
+        for (int[] e : everyFirst) {
+            PennyPost x = new PennyPost();
+            x.way(0, 1, 1, 1, e[0], e[1], 0);
+            for (int hour = 0; hour < 100; hour++) {
+                boolean leaves = hour % e[0] == e[1];
+                check.holds("leaves in hour " + hour + " with " + e[0] + ", " + e[1], leaves == (x.due(0, 1, hour) == hour + 1));
+                check.holds("also from the other end", leaves == (x.due(1, 0, hour) == hour + 1));
+            }
+        }
     }
 
     /** Holds far, due and next against floods that go hour by hour through random lands. */

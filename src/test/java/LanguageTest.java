@@ -30,6 +30,7 @@ public final class LanguageTest {
         check.holds("imports " + imports, imports.equals(Set.of("java.util.Arrays")));
         names();
         lengths(bare);
+        rows(bare);
         check.end();
     }
 
@@ -53,6 +54,19 @@ public final class LanguageTest {
 
     private static long count(Class<?> c) {
         return java.util.Arrays.stream(c.getDeclaredFields()).filter(f -> !Modifier.isStatic(f.getModifiers())).count();
+    }
+
+    /** Rows and objects are made with the post alone, in fields and constructors, so that no call adds to what a run may make. */
+    private static void rows(String bare) {
+        int made = 0;
+        for (String line : bare.split("\n")) {
+            if (!line.matches(".*\\bnew\\b.*")) continue;
+            made++;
+            boolean isField = line.matches(" {4,8}(private )?final [\\w\\[\\]]+ \\w+ = new .*");
+            boolean isInConstructor = line.matches(" +(this\\.least = new int\\[size \\* size\\]|acts\\[i\\] = new Act\\(\\)|letters\\[i\\] = new Letter\\(\\));");
+            check.holds("made with the post: " + line.trim(), isField || isInConstructor);
+        }
+        check.holds("some are made", made > 30);
     }
 
     private static void lengths(String bare) {

@@ -11,11 +11,16 @@ public final class LettersTest {
         owing();
         refusing();
         goingBack();
+        nothingOwed();
+        byNumbers();
+        codeAtTheDoor();
+        lastHour();
         frankedFree();
         wordAtTheDoor();
         partedByKeys();
         partedRests();
         twoEnds();
+        fullRun();
         lookingAt();
         purses();
         codes();
@@ -227,6 +232,95 @@ public final class LettersTest {
         check.due("none given", 0, x.count(8));
     }
 
+    /** What owes nothing is taken, whatever it is worth, with an empty purse and a mark in the code. */
+    private static void nothingOwed() {
+        check.promise(15);
+        PennyPost x = pair("to 10 pay 0; free 1");
+        x.letter(0, 1, 9, 64, 0, 0, 7);
+        x.letter(0, 1, 9, 64, 0, 2, 5);
+        x.letter(0, 1, 9, 64, 0, 2, 5);
+        x.letter(0, 1, 9, 64, 0, 1, 5);
+        x.code(0, 1, 254);
+        x.purse(1, 0);
+        x.hours(2);
+        for (int i = 0; i < 4; i++) {
+            check.due("given " + i, 2, x.at(i, 0));
+            check.due("not refused " + i, 0, x.at(i, 2));
+            check.due("paid " + i, 0, x.at(i, 3));
+        }
+        check.due("all paid", 0, x.count(5));
+        check.due("no refused ones", 0, x.count(7));
+        check.due("the purse", 0, x.purse(1, 0));
+    }
+
+    /** Letters at a door are paid for by their numbers, as long as the purse lasts. */
+    private static void byNumbers() {
+        check.promise(15);
+        PennyPost x = pair("to 10 pay 5");
+        x.letter(0, 1, 2, 1, 200, 0, 0);
+        x.letter(0, 1, 2, 1, 200, 0, 0);
+        x.letter(0, 1, 1, 1, 200, 2, 0);
+        x.letter(0, 1, 1, 1, 200, 0, 0);
+        x.letter(0, 1, 1, 1, 200, 1, 0);
+        x.purse(1, 15);
+        x.hours(2);
+        int[] refused = {0, 1, 0, 1, 0};
+        int[] paid = {10, 0, 5, 0, 5};
+        for (int i = 0; i < refused.length; i++) {
+            check.due("refused " + i, refused[i], x.at(i, 2));
+            check.due("paid " + i, paid[i], x.at(i, 3));
+        }
+        check.due("nothing is left", 0, x.purse(1, 200));
+        check.due("the stamp was paid at the other end", 195, x.purse(0, 200));
+        x.hours(1);
+        check.due("a full purse behind the hour does not help", 3, x.at(1, 0));
+        check.due("all paid", 20, x.count(5));
+    }
+
+    /** The code of the hour in which a letter is at the door decides, not that in which it was written. */
+    private static void codeAtTheDoor() {
+        check.promise(18);
+        for (int late = 0; late < 2; late++) {
+            PennyPost x = pair("to 10 pay 5");
+            x.code(0, 1, late == 0 ? 8 : 0);
+            x.letter(0, 1, 1, 1, 200, 0, 3);
+            x.hours(1);
+            check.due("what it was", late == 0 ? 8 : 0, x.code(0, 1, late == 0 ? 0 : 8));
+            x.hours(1);
+            check.due("refused, told later: " + late, late, x.at(0, 2));
+        }
+    }
+
+    /** No hour goes by from hour 9000 on. */
+    private static void lastHour() {
+        check.promise(15);
+        PennyPost x = pair("to 10 pay 5");
+        for (int hour = 1; hour < 8998; hour += 60) {
+            x.hours(Math.min(60, 8998 - hour));
+        }
+        x.letter(0, 1, 1, 1, 200, 0, 0);
+        x.hours(1);
+        x.letter(0, 1, 1, 1, 200, 0, 0);
+        check.due("9000", 9000, x.hours(1));
+        check.promise(14);
+        check.due("written in hour 9000", 2, x.letter(0, 1, 1, 1, 200, 0, 0));
+        check.promise(16);
+        check.due("given", 2, x.at(0, 0));
+        check.due("in hour 8999", 8999, x.at(0, 6));
+        check.due("comes in hour 9000", 1, x.at(1, 0));
+        check.due("waits", 0, x.at(2, 0));
+        check.due("written", 9000, x.at(2, 5));
+        check.promise(15);
+        check.due("no hour more", -3, x.hours(1));
+        check.due("comes in hour 9000", 1, x.at(1, 0));
+        check.promise(22);
+        check.due("no such week", -3, x.more(0, 61));
+        check.due("hour 9000 is in week 53", 53, 9000 / 24 / 7);
+        x.letter(0, 1, 1, 1, 200, 2, 0);
+        check.due("one", 1, x.more(0, 53));
+        check.due("not in the week ahead", 0, x.more(0, 52));
+    }
+
     private static void frankedFree() {
         check.promise(15);
         PennyPost x = pair("to 10 pay 5; free 2");
@@ -363,6 +457,34 @@ public final class LettersTest {
         check.due("no run without letters", 37, x.count(6));
     }
 
+    /** All 24 letters in one run. */
+    private static void fullRun() {
+        check.promise(15);
+        for (int cost : new int[] {0, 1, 23, 24, 25, 999}) {
+            int[] sheets = new int[24];
+            int[] drams = new int[24];
+            for (int i = 0; i < 24; i++) {
+                sheets[i] = i % 9 + 1;
+                drams[i] = 64 - i;
+            }
+            PennyPost x = run(0, cost, sheets, drams);
+            for (int i = 0; i < 24; i++) {
+                check.due("cost " + cost + ": borne by " + i, cost / 24 + (i < cost % 24 ? 1 : 0), x.at(i, 4));
+            }
+            for (int key = 1; key < 3; key++) {
+                PennyPost y = run(key, cost, sheets, drams);
+                int sum = 0;
+                for (int i = 0; i < 24; i++) {
+                    int all = key == 1 ? 64 * 24 - 276 : 45 + 45 + 21;
+                    int whole = cost * (key == 1 ? drams[i] : sheets[i]) / all;
+                    check.holds("a penny more at most", y.at(i, 4) == whole || y.at(i, 4) == whole + 1);
+                    sum += y.at(i, 4);
+                }
+                check.due("cost " + cost + ", key " + key, cost, sum);
+            }
+        }
+    }
+
     private static void lookingAt() {
         check.promise(16);
         PennyPost x = pair("to 10 pay 5");
@@ -387,6 +509,9 @@ public final class LettersTest {
     private static void purses() {
         check.promise(17);
         PennyPost x = new PennyPost();
+        for (int town = 0; town < 10; town++) {
+            check.due("at first", 200, x.purse(town, 200));
+        }
         check.due("at first", 200, x.purse(0, 0));
         check.due("then", 0, x.purse(0, 30000));
         check.due("then", 30000, x.purse(0, 1));

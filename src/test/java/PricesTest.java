@@ -15,7 +15,9 @@ public final class PricesTest {
         planned();
         judges();
         yearByYear();
+        limits();
         againstAllPlans();
+        againstPlainPlans();
         check.end();
     }
 
@@ -180,6 +182,30 @@ public final class PricesTest {
         y.way(0, 1, 10, 1, 1, 0, 0);
         Check.act(y, "to 10 pay 3", 0);
         check.due("above its worth", 0, y.under(0, 0));
+        PennyPost u = new PennyPost();
+        u.way(0, 1, 100, 1, 1, 0, 0);
+        u.way(1, 2, 200, 1, 1, 0, 0);
+        u.want(0, 1, 10, 99, 1);
+        Check.act(u, "to 100 pay 99", 0);
+        Check.act(u, "to 99 pay 1; over 100 pay 98", 0);
+        Check.act(u, "to 100 pay 50; weigh 4", 0);
+        Check.act(u, "to 99 pay 5", 0);
+        Check.act(u, "over 1 pay 0", 0);
+        check.due("99 is its worth", 990, u.under(0, 1));
+        check.due("over, beyond to", 990, u.under(1, 1));
+        check.due("100 is above all worth", 0, u.under(2, 0));
+        check.due("no pence", 0, u.under(3, 0));
+        check.due("for nothing", 10, u.under(4, 0));
+        check.due("for nothing", 0, u.under(4, 1));
+        for (int i = 1; i < 8; i++) {
+            u.want(2, 1, 500, 99, 60);
+        }
+        check.due("all eight wants", 10 + 7 * 30000, u.under(4, 0));
+        check.due("for nothing, all", 0, u.under(4, 1));
+        u.set(6, 0);
+        check.due("smugglers for nothing too", 10 + 7 * 30000, u.under(4, 0));
+        check.due("smugglers for nothing", 0, u.under(0, 0));
+        check.due("no act", -2, u.under(5, 0));
         check.due("no act", -2, x.under(2, 0));
         check.due("no act", -2, x.under(-1, 0));
         check.due("what", -3, x.under(0, -1));
@@ -297,6 +323,55 @@ public final class PricesTest {
         check.due("a first year still", 1000, x.year(1, 0));
     }
 
+    /** LIMIT binds behind each year, also behind one that a later one makes good. */
+    private static void limits() {
+        check.promise(34);
+        PennyPost x = one(100, 10, 10);
+        x.price(1);
+        x.price(10);
+        x.set(4, 0);
+        x.set(5, 167);
+        check.due("as many letters by each: the least debt", -17666, x.plan(2, 1));
+        PennyPost y = one(100, 10, 10);
+        y.price(0);
+        y.price(10);
+        y.set(4, 1);
+        y.set(5, 1167);
+        check.due("more letters by a year for nothing", 2100, y.plan(2, 0));
+        check.due("and then at 10", 1167 + 1184 - 11000, y.plan(2, 1));
+        y.set(5, 1166);
+        check.due("which is not good for a penny", 2000, y.plan(2, 0));
+        check.promise(35);
+        check.due("10 at first", 10, y.planned(2, 0));
+        check.promise(36);
+        check.due("above behind the first year alone", 0, y.judge(row(0, 10), 2, 2));
+        check.due("though not in the end", 1167 + 1184 - 11000, y.judge(row(0, 10), 2, 1));
+        y.set(5, 1167);
+        check.due("not above", -1, y.judge(row(0, 10), 2, 2));
+        y.set(5, -1000000);
+        check.due("the least limit", 0, y.judge(row(10), 1, 2));
+        y.set(5, 1000000);
+        y.set(2, 100000);
+        y.set(3, 99);
+        check.due("the most limit", -1, y.judge(row(99, 99, 99, 99, 99), 5, 2));
+        PennyPost z = new PennyPost();
+        for (int i = 0; i < 8; i++) {
+            z.want(0, 1, 500, 99, 60);
+        }
+        z.set(3, 99);
+        z.set(2, 100000);
+        z.set(5, 1000000);
+        int loss = 100000 + 99 * 40000;
+        check.due("the most letters at no price", 2 * loss, z.judge(row(0, 0), 2, 1));
+        check.due("above in the first year", 0, z.judge(row(0, 0), 2, 2));
+        check.due("the most income of five years", 5 * (loss - 99 * 240000), z.judge(row(99, 99, 99, 99, 99), 5, 1));
+        check.due("all letters of five years", 5 * 240000, z.judge(row(99, 99, 99, 99, 99), 5, 0));
+        z.price(99);
+        check.promise(34);
+        check.due("all letters of five years", 5 * 240000, z.plan(5, 0));
+        check.due("the most income of five years", 5 * (loss - 99 * 240000), z.plan(5, 1));
+    }
+
     /** Letters in year 1 behind a year at a price. */
     private static int behind(int worth, int times, int grow, int smugglers, int price) {
         PennyPost x = one(1, worth, times);
@@ -320,6 +395,20 @@ public final class PricesTest {
         check.due("by smugglers, as they were", 10, behind(10, 10, 1, 10, 11));
         check.due("smugglers too dear", 9, behind(10, 10, 1, 11, 12));
         check.due("worth nothing", 11, behind(0, 10, 1, -1, 0));
+        check.due("half of 1, cut, is 0", 11, behind(1, 10, 1, -1, 0));
+        check.due("1 is above it", 10, behind(1, 10, 1, -1, 1));
+        check.due("half of 99, cut", 11, behind(99, 10, 1, -1, 49));
+        check.due("half of 99, cut", 10, behind(99, 10, 1, -1, 50));
+        check.due("60 stays", 60, behind(10, 60, 9, -1, 5));
+        check.due("just 60", 60, behind(10, 51, 9, -1, 5));
+        check.due("59", 59, behind(10, 50, 9, -1, 5));
+        check.due("60 without growing", 60, behind(10, 60, 0, -1, 5));
+        check.due("to 0", 0, behind(10, 1, 1, -1, 11));
+        check.due("from 60, not at all", 59, behind(10, 60, 9, -1, 11));
+        check.due("one less, whatever they grow by", 9, behind(10, 10, 9, -1, 11));
+        check.due("the post at the price of smugglers", 11, behind(10, 10, 1, 5, 5));
+        check.due("the post beyond it, but smugglers", 10, behind(10, 10, 1, 4, 5));
+        check.due("the post at 0, as smugglers", 11, behind(10, 10, 1, 0, 0));
     }
 
     /** Holds plan() and planned() against judge() of every row of prices. */
@@ -343,6 +432,119 @@ public final class PricesTest {
             for (int n = 1; n <= 4; n++) {
                 againstJudge(x, prices, n, "run " + run + ", " + n + " years");
             }
+        }
+    }
+
+    /** Up to five years of six prices, held against a model that keeps all that it needs in each step. */
+    private static void againstPlainPlans() {
+        Check.Dice dice = new Check.Dice(345);
+        for (int run = 0; run < 30; run++) {
+            PennyPost x = new PennyPost();
+            int[][] wants = new int[dice.from(1, 8)][];
+            int[] times = new int[wants.length];
+            for (int i = 0; i < wants.length; i++) {
+                wants[i] = new int[] {dice.from(1, 60), dice.below(30)};
+                times[i] = dice.below(61);
+                x.want(1, 0, wants[i][0], wants[i][1], times[i]);
+            }
+            int[] prices = new int[6];
+            for (int i = 0; i < 6; i++) {
+                prices[i] = dice.below(run % 3 == 0 ? 4 : 30);
+                x.price(prices[i]);
+            }
+            int[] rules = {dice.below(9000), dice.below(100), dice.below(10), dice.from(-6000, 12000), dice.from(-1, 20)};
+            for (int i = 0; i < 5; i++) {
+                x.set(2 + i, rules[i]);
+            }
+            int n = 3 + run % 3;
+            Plan plan = new Plan(wants, prices, rules, n);
+            plan.go(0, times, 0, 0);
+            String what = "run " + run + ", " + n + " years";
+            check.promise(34);
+            check.due(what + ": letters", plan.best == null ? LEAST_INT : plan.letters, x.plan(n, 0));
+            check.due(what + ": debt", plan.best == null ? LEAST_INT : plan.debt, x.plan(n, 1));
+            check.promise(35);
+            for (int i = 0; i < n; i++) {
+                check.due(what + ": year " + i, plan.best == null ? -1 : plan.best[i], x.planned(n, i));
+            }
+            check.promise(36);
+            int[] now = new int[n];
+            for (int i = 0; i < n; i++) {
+                now[i] = dice.below(30);
+            }
+            Plan single = new Plan(wants, now, rules, n);
+            single.follow(times);
+            check.due(what + ": judged letters", single.letters, x.judge(row(now), n, 0));
+            check.due(what + ": judged debt", single.debt, x.judge(row(now), n, 1));
+            check.due(what + ": judged year", single.broke, x.judge(row(now), n, 2));
+        }
+    }
+
+    /** The rules are FIXED, EACH, GROW, LIMIT and the price of smugglers. */
+    private static final class Plan {
+        private final int[][] wants;
+        private final int[] prices;
+        private final int[] rules;
+        private final int n;
+        private final int[] tried;
+        int[] best;
+        int letters;
+        int debt;
+        int broke = -1;
+
+        Plan(int[][] wants, int[] prices, int[] rules, int n) {
+            this.wants = wants;
+            this.prices = prices;
+            this.rules = rules;
+            this.n = n;
+            this.tried = new int[n];
+        }
+
+        void go(int year, int[] times, int sum, int owed) {
+            if (year == n) {
+                if (best != null && (sum < letters || sum == letters && owed >= debt)) return;
+                best = tried.clone();
+                letters = sum;
+                debt = owed;
+                return;
+            }
+            for (int price : prices) {
+                int[] then = times.clone();
+                int posted = pass(then, price);
+                int owing = owed + loss(posted, price);
+                tried[year] = price;
+                if (owing <= rules[3]) go(year + 1, then, sum + posted, owing);
+            }
+        }
+
+        void follow(int[] times) {
+            int[] now = times.clone();
+            for (int i = 0; i < n; i++) {
+                int posted = pass(now, prices[i]);
+                letters += posted;
+                debt += loss(posted, prices[i]);
+                if (broke == -1 && debt > rules[3]) broke = i;
+            }
+        }
+
+        private int loss(int posted, int price) {
+            int sixths = rules[1] * posted;
+            return rules[0] + sixths / 6 + (sixths % 6 > 0 ? 1 : 0) - posted * price;
+        }
+
+        private int pass(int[] times, int price) {
+            int posted = 0;
+            for (int w = 0; w < wants.length; w++) {
+                int worth = wants[w][1];
+                int other = rules[4] == -1 ? 1000 : rules[4];
+                if (price <= worth && price <= other) {
+                    posted += wants[w][0] * times[w];
+                    if (2 * price <= worth) times[w] = Math.min(60, times[w] + rules[2]);
+                } else if (other > worth && times[w] > 0) {
+                    times[w]--;
+                }
+            }
+            return posted;
         }
     }
 
